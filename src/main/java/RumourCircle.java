@@ -213,27 +213,26 @@ public final class RumourCircle {
     }
 
     private void react(Node b, Message message) {
+        int origin = message.origin;
+        int target = message.target;
+        int probeNumber = message.probeNumber;
         switch (message.kind) {
             case PING:
-                passOn(ACK, b, message.sender, message);
+                send(ACK, b, message.sender, origin, target, probeNumber);
                 break;
             case ACK:
-                if (b.self == message.origin) {
-                    b.takeAnswer(message.probeNumber);
+                if (b.self == origin) {
+                    b.takeAnswer(probeNumber);
                 } else {
-                    passOn(ACK, b, message.origin, message);
+                    send(ACK, b, origin, origin, target, probeNumber);
                 }
                 break;
             case REQUEST:
-                passOn(PING, b, message.target, message);
+                send(PING, b, target, origin, target, probeNumber);
                 break;
             default:
                 break;
         }
-    }
-
-    private void passOn(int kind, Node from, int to, Message cause) {
-        send(kind, from, to, cause.origin, cause.target, cause.probeNumber);
     }
 
     private void send(int kind, Node from, int to, int origin, int target, int probeNumber) {
@@ -338,15 +337,11 @@ public final class RumourCircle {
 
         void hear(int m, int s, int i) {
             if (m == self) {
-                clearSelf(s, i);
+                if (s != ALIVE && i >= incarnationOf[self]) {
+                    adopt(self, ALIVE, i + 1);
+                }
             } else if (isNewer(s, i, statusOf[m], incarnationOf[m])) {
                 adopt(m, s, i);
-            }
-        }
-
-        void clearSelf(int s, int i) {
-            if (s != ALIVE && i >= incarnationOf[self]) {
-                adopt(self, ALIVE, i + 1);
             }
         }
 
@@ -391,7 +386,7 @@ public final class RumourCircle {
             timesSent[m] = 0;
         }
 
-        // Both are picked before either counts as sent, so that the counts compared are the old ones.
+        // Both are picked before either counts as sent: the counts as they were decide.
         void load(Message message) {
             message.newsCount = 0;
             int first = leastSentBut(NONE);
@@ -412,10 +407,14 @@ public final class RumourCircle {
         }
 
         void handOver(int m, Message message) {
-            if (m == NONE) {
+            int j = message.newsCount;
+            if (m == NONE || j >= MOST_NEWS) {
                 return;
             }
-            message.addNews(m, newsStatus[m], newsIncarnation[m]);
+            message.newsNode[j] = m;
+            message.newsStatus[j] = newsStatus[m];
+            message.newsIncarnation[j] = newsIncarnation[m];
+            message.newsCount = j + 1;
             timesSent[m]++;
             if (timesSent[m] == MOST_SENDS) {
                 timesSent[m] = NONE;
@@ -440,15 +439,6 @@ public final class RumourCircle {
             newsNode = new int[MOST_NEWS];
             newsStatus = new int[MOST_NEWS];
             newsIncarnation = new int[MOST_NEWS];
-        }
-
-        void addNews(int m, int s, int i) {
-            if (newsCount < MOST_NEWS) {
-                newsNode[newsCount] = m;
-                newsStatus[newsCount] = s;
-                newsIncarnation[newsCount] = i;
-                newsCount++;
-            }
         }
     }
 

@@ -542,6 +542,9 @@ public final class ActsTest {
         x.deliver(0);
         dueView(x, 0, 1, SUSPECT, 1, 1);
         check.due("sent(0, 1)", x.sent(0, 1), sent + 1);
+        // FAULTY has the incarnation of the suspicion.
+        periodsUnheard(x, 0, 2);
+        dueView(x, 0, 1, FAULTY, 1, 0);
     }
 
     private static void hearFaulty() {
@@ -666,6 +669,12 @@ public final class ActsTest {
         check.due("round()", x.round(), 6);
         dueView(x, 0, 1, ALIVE, 1, 0);
         check.due("probe(0)", x.probe(0), 9);
+        // 0 has stopped with a probe without an answer: it asks for no help. Two PINGs are answered,
+        // one to 0 is not, and 2 has the help of 1 about 0: a REQUEST and a PING.
+        x = new RumourCircle(3);
+        x.period(0);
+        x.stop(0);
+        check.due("round()", x.round(), 2 * 2 + 1 + 2);
         // Nobody is up: the messages arrive all the same, and nothing comes of it.
         x = new RumourCircle(2);
         x.period(0);
