@@ -1,5 +1,7 @@
-/** Counts and prints the answers that are not the due ones. */
+/** Counts the answers that are not the due ones, and prints the first of them. */
 final class Check {
+    private static final int MOST_PRINTED = 50;
+
     private int wrong = 0;
     private String part = "";
 
@@ -9,8 +11,7 @@ final class Check {
 
     void due(String what, long got, long want) {
         if (got != want) {
-            wrong++;
-            System.out.println(part + ": " + what + " answered " + got + ", due is " + want);
+            report(what + " answered " + got + ", due is " + want);
         }
     }
 
@@ -20,8 +21,7 @@ final class Check {
 
     void due(String what, String got, String want) {
         if (!got.equals(want)) {
-            wrong++;
-            System.out.println(part + ": " + what + " answered\n  " + got + "\ndue is\n  " + want);
+            report(what + " answered\n  " + got + "\ndue is\n  " + want);
         }
     }
 
@@ -29,6 +29,13 @@ final class Check {
         System.out.println(wrong == 0 ? "all answers are as due" : wrong + " answers are not as due");
         if (wrong != 0) {
             System.exit(1);
+        }
+    }
+
+    private void report(String text) {
+        wrong++;
+        if (wrong <= MOST_PRINTED) {
+            System.out.println(part + ": " + text);
         }
     }
 }
