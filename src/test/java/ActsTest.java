@@ -41,20 +41,6 @@ public final class ActsTest {
         check.end();
     }
 
-    private static int packed(int kind, int sender, int receiver, int target, int newsCount) {
-        return kind * 4096 + sender * 512 + receiver * 64 + target * 8 + newsCount;
-    }
-
-    private static long packedNews(int node, int status, int incarnation) {
-        return node * 4L + status + incarnation * 64L;
-    }
-
-    private static void dueView(RumourCircle x, int a, int m, int status, int incarnation, int timer) {
-        check.due("status(" + a + ", " + m + ")", x.status(a, m), status);
-        check.due("incarnation(" + a + ", " + m + ")", x.incarnation(a, m), incarnation);
-        check.due("timer(" + a + ", " + m + ")", x.timer(a, m), timer);
-    }
-
     /** Delivers the oldest message until none flies. */
     private static void deliverAll(RumourCircle x) {
         for (int i = 0; i < 100 && x.flying() > 0; i++) {
@@ -110,7 +96,7 @@ public final class ActsTest {
                     due = (due + 1) % n == a ? (due + 2) % n : (due + 1) % n;
                     check.due("period(" + a + ") of " + n, x.period(a), due);
                     check.due("probe(" + a + ") of " + n, x.probe(a), due);
-                    check.due("message(0)", x.message(0), packed(PING, a, due, due, 0));
+                    check.due("message(0)", x.message(0), Check.packed(PING, a, due, due, 0));
                     x.deliver(0);
                     x.deliver(0);
                     check.due("probe(" + a + ") of " + n, x.probe(a), due + 8);
@@ -130,23 +116,23 @@ public final class ActsTest {
         for (int i = 0; i < targets.length; i++) {
             check.due("period(2)", x.period(2), targets[i]);
             check.due("probe(2)", x.probe(2), targets[i]);
-            dueView(x, 2, 3, views[i][0] / 10, 0, views[i][0] % 10);
-            dueView(x, 2, 0, views[i][1] / 10, 0, views[i][1] % 10);
-            dueView(x, 2, 1, views[i][2] / 10, 0, views[i][2] % 10);
+            check.dueView(x, 2, 3, views[i][0] / 10, 0, views[i][0] % 10);
+            check.dueView(x, 2, 0, views[i][1] / 10, 0, views[i][1] % 10);
+            check.dueView(x, 2, 1, views[i][2] / 10, 0, views[i][2] % 10);
         }
         // The news, those sent least often first, with each PING.
         long[][] news = {
             {NONE, NONE},
-            {packedNews(3, SUSPECT, 0), NONE},
-            {packedNews(0, SUSPECT, 0), packedNews(3, SUSPECT, 0)},
-            {packedNews(1, SUSPECT, 0), packedNews(0, SUSPECT, 0)},
-            {packedNews(3, FAULTY, 0), packedNews(1, SUSPECT, 0)},
-            {packedNews(0, FAULTY, 0), packedNews(3, FAULTY, 0)},
+            {Check.packedNews(3, SUSPECT, 0), NONE},
+            {Check.packedNews(0, SUSPECT, 0), Check.packedNews(3, SUSPECT, 0)},
+            {Check.packedNews(1, SUSPECT, 0), Check.packedNews(0, SUSPECT, 0)},
+            {Check.packedNews(3, FAULTY, 0), Check.packedNews(1, SUSPECT, 0)},
+            {Check.packedNews(0, FAULTY, 0), Check.packedNews(3, FAULTY, 0)},
         };
         check.due("flying()", x.flying(), 6);
         for (int k = 0; k < news.length; k++) {
             int count = news[k][0] == NONE ? 0 : news[k][1] == NONE ? 1 : 2;
-            check.due("message(" + k + ")", x.message(k), packed(PING, 2, targets[k], targets[k], count));
+            check.due("message(" + k + ")", x.message(k), Check.packed(PING, 2, targets[k], targets[k], count));
             check.due("news(" + k + ", 0)", x.news(k, 0), news[k][0]);
             check.due("news(" + k + ", 1)", x.news(k, 1), news[k][1]);
         }
@@ -164,9 +150,9 @@ public final class ActsTest {
         int[] views = {0, 0, 10, 11, 12, 20, 20};
         for (int i = 0; i < targets.length; i++) {
             check.due("period(0)", x.period(0), targets[i]);
-            dueView(x, 0, 2, views[i] / 10, 0, views[i] % 10);
+            check.dueView(x, 0, 2, views[i] / 10, 0, views[i] % 10);
             deliverAll(x);
-            dueView(x, 0, 1, ALIVE, 0, 0);
+            check.dueView(x, 0, 1, ALIVE, 0, 0);
         }
     }
 
@@ -176,7 +162,7 @@ public final class ActsTest {
         x.period(0);
         x.period(0);
         x.deliver(0);
-        check.due("message(1)", x.message(1), packed(ACK, 1, 0, 1, 0));
+        check.due("message(1)", x.message(1), Check.packed(ACK, 1, 0, 1, 0));
         check.due("deliver(1)", x.deliver(1), ACK);
         check.due("probe(0)", x.probe(0), 1);
         x.deliver(0);
@@ -192,17 +178,17 @@ public final class ActsTest {
         for (int i = 0; i < 4; i++) {
             check.due("period(0)", x.period(0), 1);
         }
-        dueView(x, 0, 1, SUSPECT, 0, 2);
+        check.dueView(x, 0, 1, SUSPECT, 0, 2);
         check.due("period(0)", x.period(0), NONE);
         check.due("flying()", x.flying(), 4);
-        dueView(x, 0, 1, FAULTY, 0, 0);
+        check.dueView(x, 0, 1, FAULTY, 0, 0);
         // The ACK has the number of the latest probe, but there is no probe any more.
         x.deliver(3);
-        check.due("news(3, 0)", x.news(3, 0), packedNews(1, ALIVE, 1));
+        check.due("news(3, 0)", x.news(3, 0), Check.packedNews(1, ALIVE, 1));
         x.deliver(3);
         check.due("probe(0)", x.probe(0), NONE);
         check.due("help(0)", x.help(0), NONE);
-        dueView(x, 0, 1, FAULTY, 0, 0);
+        check.dueView(x, 0, 1, FAULTY, 0, 0);
     }
 
     private static void periodRefused() {
@@ -224,8 +210,8 @@ public final class ActsTest {
         RumourCircle x = new RumourCircle(6);
         x.period(4);
         check.due("help(4)", x.help(4), 2);
-        check.due("message(1)", x.message(1), packed(REQUEST, 4, 0, 5, 0));
-        check.due("message(2)", x.message(2), packed(REQUEST, 4, 1, 5, 0));
+        check.due("message(1)", x.message(1), Check.packed(REQUEST, 4, 0, 5, 0));
+        check.due("message(2)", x.message(2), Check.packed(REQUEST, 4, 1, 5, 0));
         // It may ask again.
         check.due("help(4)", x.help(4), 2);
         check.due("flying()", x.flying(), 5);
@@ -235,11 +221,11 @@ public final class ActsTest {
         periodsUnheard(x, 0, 3);
         // Suspects may help; 0 itself is passed over.
         check.due("help(0)", x.help(0), 2);
-        check.due("message(0)", x.message(0), packed(REQUEST, 0, 1, 3, 2));
-        check.due("message(1)", x.message(1), packed(REQUEST, 0, 2, 3, 2));
+        check.due("message(0)", x.message(0), Check.packed(REQUEST, 0, 1, 3, 2));
+        check.due("message(1)", x.message(1), Check.packed(REQUEST, 0, 2, 3, 2));
         // In the buffer before: 1 sent twice, 2 sent once.
-        check.due("news(0, 0)", x.news(0, 0), packedNews(2, SUSPECT, 0));
-        check.due("news(0, 1)", x.news(0, 1), packedNews(1, SUSPECT, 0));
+        check.due("news(0, 0)", x.news(0, 0), Check.packedNews(2, SUSPECT, 0));
+        check.due("news(0, 1)", x.news(0, 1), Check.packedNews(1, SUSPECT, 0));
         check.due("sent(0, 1)", x.sent(0, 1), 4);
         check.due("sent(0, 2)", x.sent(0, 2), 3);
     }
@@ -251,7 +237,7 @@ public final class ActsTest {
         check.due("probe(0)", x.probe(0), 2);
         check.due("status(0, 1)", x.status(0, 1), FAULTY);
         check.due("help(0)", x.help(0), 1);
-        check.due("message(0)", x.message(0), packed(REQUEST, 0, 3, 2, 2));
+        check.due("message(0)", x.message(0), Check.packed(REQUEST, 0, 3, 2, 2));
         x.lose(0);
         periodsUnheard(x, 0, 1);
         check.due("probe(0)", x.probe(0), 3);
@@ -272,7 +258,7 @@ public final class ActsTest {
             deliverAll(x);
         }
         check.due("period(2)", x.period(2), 0);
-        check.due("news(0, 0)", x.news(0, 0), packedNews(1, FAULTY, 0));
+        check.due("news(0, 0)", x.news(0, 0), Check.packedNews(1, FAULTY, 0));
         return x;
     }
 
@@ -281,13 +267,13 @@ public final class ActsTest {
         RumourCircle x = faultyNewsFlies();
         check.due("period(0)", x.period(0), 1);
         x.deliver(0);
-        dueView(x, 0, 1, FAULTY, 0, 0);
+        check.dueView(x, 0, 1, FAULTY, 0, 0);
         check.due("probe(0)", x.probe(0), 1);
         int flying = x.flying();
         check.due("help(0)", x.help(0), 1);
-        check.due("the request", x.message(flying), packed(REQUEST, 0, 2, 1, 1));
+        check.due("the request", x.message(flying), Check.packed(REQUEST, 0, 2, 1, 1));
         check.due("period(0)", x.period(0), 2);
-        dueView(x, 0, 1, FAULTY, 0, 0);
+        check.dueView(x, 0, 1, FAULTY, 0, 0);
     }
 
     private static void helpWithoutRoom() {
@@ -300,7 +286,7 @@ public final class ActsTest {
         check.due("flying()", x.flying(), 23);
         check.due("help(0)", x.help(0), 2);
         check.due("flying()", x.flying(), 24);
-        check.due("message(23)", x.message(23), packed(REQUEST, 0, 2, 1, 0));
+        check.due("message(23)", x.message(23), Check.packed(REQUEST, 0, 2, 1, 0));
         check.due("help(0)", x.help(0), 2);
         check.due("flying()", x.flying(), 24);
         check.due("period(0)", x.period(0), 2);
@@ -309,7 +295,7 @@ public final class ActsTest {
         check.due("sent(0, 1)", x.sent(0, 1), 1);
         check.due("help(0)", x.help(0), 2);
         check.due("sent(0, 1)", x.sent(0, 1), 3);
-        check.due("message(23)", x.message(23), packed(REQUEST, 0, 2, 1, 0));
+        check.due("message(23)", x.message(23), Check.packed(REQUEST, 0, 2, 1, 0));
     }
 
     private static void helpRefused() {
@@ -338,14 +324,14 @@ public final class ActsTest {
         x.period(3);
         x.lose(0);
         x.help(3);
-        check.due("message(0)", x.message(0), packed(REQUEST, 3, 0, 4, 0));
-        check.due("message(1)", x.message(1), packed(REQUEST, 3, 1, 4, 0));
+        check.due("message(0)", x.message(0), Check.packed(REQUEST, 3, 0, 4, 0));
+        check.due("message(1)", x.message(1), Check.packed(REQUEST, 3, 1, 4, 0));
         check.due("deliver(1)", x.deliver(1), REQUEST);
-        check.due("message(1)", x.message(1), packed(PING, 1, 4, 4, 0));
+        check.due("message(1)", x.message(1), Check.packed(PING, 1, 4, 4, 0));
         check.due("deliver(1)", x.deliver(1), PING);
-        check.due("message(1)", x.message(1), packed(ACK, 4, 1, 4, 0));
+        check.due("message(1)", x.message(1), Check.packed(ACK, 4, 1, 4, 0));
         check.due("deliver(1)", x.deliver(1), ACK);
-        check.due("message(1)", x.message(1), packed(ACK, 1, 3, 4, 0));
+        check.due("message(1)", x.message(1), Check.packed(ACK, 1, 3, 4, 0));
         check.due("probe(1)", x.probe(1), NONE);
         check.due("probe(3)", x.probe(3), 4);
         check.due("deliver(1)", x.deliver(1), ACK);
@@ -359,13 +345,13 @@ public final class ActsTest {
         x.period(0);
         x.period(2);
         x.help(0);
-        check.due("message(2)", x.message(2), packed(REQUEST, 0, 2, 1, 0));
+        check.due("message(2)", x.message(2), Check.packed(REQUEST, 0, 2, 1, 0));
         x.deliver(2);
         x.deliver(3);
-        check.due("message(3)", x.message(3), packed(ACK, 1, 2, 1, 0));
+        check.due("message(3)", x.message(3), Check.packed(ACK, 1, 2, 1, 0));
         x.deliver(3);
         check.due("probe(2)", x.probe(2), 3);
-        check.due("message(3)", x.message(3), packed(ACK, 2, 0, 1, 0));
+        check.due("message(3)", x.message(3), Check.packed(ACK, 2, 0, 1, 0));
     }
 
     private static void deliverFromTheMiddle() {
@@ -376,9 +362,9 @@ public final class ActsTest {
         x.period(2);
         check.due("deliver(1)", x.deliver(1), PING);
         check.due("flying()", x.flying(), 3);
-        check.due("message(0)", x.message(0), packed(PING, 0, 1, 1, 0));
-        check.due("message(1)", x.message(1), packed(PING, 2, 3, 3, 0));
-        check.due("message(2)", x.message(2), packed(ACK, 2, 1, 2, 0));
+        check.due("message(0)", x.message(0), Check.packed(PING, 0, 1, 1, 0));
+        check.due("message(1)", x.message(1), Check.packed(PING, 2, 3, 3, 0));
+        check.due("message(2)", x.message(2), Check.packed(ACK, 2, 1, 2, 0));
         check.due("deliver(2)", x.deliver(2), ACK);
         check.due("flying()", x.flying(), 2);
         check.due("probe(1)", x.probe(1), 10);
@@ -390,18 +376,18 @@ public final class ActsTest {
         RumourCircle x = new RumourCircle(3);
         periodsUnheard(x, 0, 1);
         x.period(0);
-        check.due("message(0)", x.message(0), packed(PING, 0, 2, 2, 1));
+        check.due("message(0)", x.message(0), Check.packed(PING, 0, 2, 2, 1));
         x.stop(2);
         check.due("deliver(0)", x.deliver(0), PING);
         check.due("flying()", x.flying(), 0);
-        dueView(x, 2, 1, ALIVE, 0, 0);
+        check.dueView(x, 2, 1, ALIVE, 0, 0);
         check.due("sent(2, 1)", x.sent(2, 1), NONE);
         // An answer to a node that has stopped meanwhile.
         x = new RumourCircle(2);
         x.period(0);
         x.stop(0);
         check.due("deliver(0)", x.deliver(0), PING);
-        check.due("message(0)", x.message(0), packed(ACK, 1, 0, 1, 0));
+        check.due("message(0)", x.message(0), Check.packed(ACK, 1, 0, 1, 0));
         check.due("deliver(0)", x.deliver(0), ACK);
         check.due("probe(0)", x.probe(0), 1);
     }
@@ -417,7 +403,7 @@ public final class ActsTest {
         // What arrives leaves its place to the message that it causes.
         check.due("deliver(0)", x.deliver(0), PING);
         check.due("flying()", x.flying(), 24);
-        check.due("message(23)", x.message(23), packed(ACK, 1, 0, 1, 0));
+        check.due("message(23)", x.message(23), Check.packed(ACK, 1, 0, 1, 0));
         check.due("deliver(23)", x.deliver(23), ACK);
         check.due("flying()", x.flying(), 23);
         check.due("probe(0)", x.probe(0), 9);
@@ -442,31 +428,31 @@ public final class ActsTest {
         for (int i = 0; i < 5; i++) {
             x.period(0);
         }
-        check.due("message(4)", x.message(4), packed(PING, 0, 2, 2, 2));
-        check.due("news(4, 0)", x.news(4, 0), packedNews(1, FAULTY, 0));
+        check.due("message(4)", x.message(4), Check.packed(PING, 0, 2, 2, 2));
+        check.due("news(4, 0)", x.news(4, 0), Check.packedNews(1, FAULTY, 0));
         x.deliver(4);
         // The ACK of 2 tells 1 that it is FAULTY.
         x.period(1);
         x.deliver(5);
-        check.due("message(5)", x.message(5), packed(ACK, 2, 1, 2, 2));
-        check.due("news(5, 0)", x.news(5, 0), packedNews(1, FAULTY, 0));
+        check.due("message(5)", x.message(5), Check.packed(ACK, 2, 1, 2, 2));
+        check.due("news(5, 0)", x.news(5, 0), Check.packedNews(1, FAULTY, 0));
         x.deliver(5);
         check.due("incarnation(1, 1)", x.incarnation(1, 1), 1);
         check.due("status(1, 1)", x.status(1, 1), ALIVE);
         check.due("sent(1, 1)", x.sent(1, 1), 0);
         check.due("period(1)", x.period(1), 0);
-        check.due("news(5, 0)", x.news(5, 0), packedNews(1, ALIVE, 1));
+        check.due("news(5, 0)", x.news(5, 0), Check.packedNews(1, ALIVE, 1));
         // The ACK of 0 says the same, with a lower incarnation than 1 has now: nothing.
         x.deliver(5);
-        check.due("message(5)", x.message(5), packed(ACK, 0, 1, 0, 2));
-        check.due("news(5, 0)", x.news(5, 0), packedNews(2, ALIVE, 1));
-        check.due("news(5, 1)", x.news(5, 1), packedNews(1, FAULTY, 0));
+        check.due("message(5)", x.message(5), Check.packed(ACK, 0, 1, 0, 2));
+        check.due("news(5, 0)", x.news(5, 0), Check.packedNews(2, ALIVE, 1));
+        check.due("news(5, 1)", x.news(5, 1), Check.packedNews(1, FAULTY, 0));
         x.deliver(5);
         check.due("incarnation(1, 1)", x.incarnation(1, 1), 1);
         check.due("sent(1, 1)", x.sent(1, 1), 1);
         // An older SUSPECT does nothing either.
-        check.due("message(2)", x.message(2), packed(PING, 0, 1, 1, 2));
-        check.due("news(2, 1)", x.news(2, 1), packedNews(1, SUSPECT, 0));
+        check.due("message(2)", x.message(2), Check.packed(PING, 0, 1, 1, 2));
+        check.due("news(2, 1)", x.news(2, 1), Check.packedNews(1, SUSPECT, 0));
         x.deliver(2);
         check.due("incarnation(1, 1)", x.incarnation(1, 1), 1);
 
@@ -478,20 +464,20 @@ public final class ActsTest {
         x.deliver(1);
         check.due("incarnation(1, 1) by suspicion of 0", x.incarnation(1, 1), 1);
         // ALIVE with the higher incarnation clears 1; a new suspicion then has incarnation 1.
-        check.due("news(2, 0)", x.news(2, 0), packedNews(1, ALIVE, 1));
+        check.due("news(2, 0)", x.news(2, 0), Check.packedNews(1, ALIVE, 1));
         x.deliver(2);
-        dueView(x, 0, 1, ALIVE, 1, 0);
+        check.dueView(x, 0, 1, ALIVE, 1, 0);
         x.period(0);
-        dueView(x, 0, 1, SUSPECT, 1, 0);
-        check.due("its news", x.news(x.flying() - 1, 0), packedNews(1, SUSPECT, 1));
+        check.dueView(x, 0, 1, SUSPECT, 1, 0);
+        check.due("its news", x.news(x.flying() - 1, 0), Check.packedNews(1, SUSPECT, 1));
         x.deliver(x.flying() - 1);
         check.due("incarnation(1, 1)", x.incarnation(1, 1), 2);
         check.due("sent(1, 1)", x.sent(1, 1), 1);
         // News that 1 is ALIVE, from 0 to 1, leaves 1 as it is.
         x.deliver(x.flying() - 1);
-        dueView(x, 0, 1, ALIVE, 2, 0);
+        check.dueView(x, 0, 1, ALIVE, 2, 0);
         x.period(0);
-        check.due("its news", x.news(x.flying() - 1, 0), packedNews(1, ALIVE, 2));
+        check.due("its news", x.news(x.flying() - 1, 0), Check.packedNews(1, ALIVE, 2));
         x.deliver(x.flying() - 1);
         check.due("incarnation(1, 1)", x.incarnation(1, 1), 2);
     }
@@ -504,8 +490,8 @@ public final class ActsTest {
         deliverAll(x);
         x.period(0);
         deliverAll(x);
-        dueView(x, 0, 1, ALIVE, 1, 0);
-        dueView(x, 2, 1, SUSPECT, 0, 0);
+        check.dueView(x, 0, 1, ALIVE, 1, 0);
+        check.dueView(x, 2, 1, SUSPECT, 0, 0);
         check.due("incarnation(1, 1)", x.incarnation(1, 1), 1);
         return x;
     }
@@ -516,14 +502,14 @@ public final class ActsTest {
         int sent = x.sent(0, 1);
         check.due("sent(0, 1)", sent, 0);
         check.due("period(2)", x.period(2), 0);
-        check.due("news(0, 0)", x.news(0, 0), packedNews(1, SUSPECT, 0));
+        check.due("news(0, 0)", x.news(0, 0), Check.packedNews(1, SUSPECT, 0));
         x.deliver(0);
-        dueView(x, 0, 1, ALIVE, 1, 0);
+        check.dueView(x, 0, 1, ALIVE, 1, 0);
         check.due("sent(0, 1)", x.sent(0, 1), 1);
-        check.due("news(0, 0)", x.news(0, 0), packedNews(1, ALIVE, 1));
-        dueView(x, 2, 1, SUSPECT, 0, 1);
+        check.due("news(0, 0)", x.news(0, 0), Check.packedNews(1, ALIVE, 1));
+        check.dueView(x, 2, 1, SUSPECT, 0, 1);
         x.deliver(0);
-        dueView(x, 2, 1, ALIVE, 1, 0);
+        check.dueView(x, 2, 1, ALIVE, 1, 0);
         check.due("sent(2, 1)", x.sent(2, 1), 0);
     }
 
@@ -533,18 +519,18 @@ public final class ActsTest {
         periodsUnheard(x, 0, 2);
         check.due("probe(0)", x.probe(0), 1);
         periodsUnheard(x, 0, 2);
-        dueView(x, 0, 1, SUSPECT, 1, 1);
+        check.dueView(x, 0, 1, SUSPECT, 1, 1);
         int sent = x.sent(0, 1);
         check.due("period(1)", x.period(1), 2);
         x.lose(0);
         check.due("period(1)", x.period(1), 0);
-        check.due("news(0, 1)", x.news(0, 1), packedNews(1, ALIVE, 1));
+        check.due("news(0, 1)", x.news(0, 1), Check.packedNews(1, ALIVE, 1));
         x.deliver(0);
-        dueView(x, 0, 1, SUSPECT, 1, 1);
+        check.dueView(x, 0, 1, SUSPECT, 1, 1);
         check.due("sent(0, 1)", x.sent(0, 1), sent + 1);
         // FAULTY has the incarnation of the suspicion.
         periodsUnheard(x, 0, 2);
-        dueView(x, 0, 1, FAULTY, 1, 0);
+        check.dueView(x, 0, 1, FAULTY, 1, 0);
     }
 
     private static void hearFaulty() {
@@ -553,31 +539,31 @@ public final class ActsTest {
         // 2 declares 1 with incarnation 0, and tells 0, which has ALIVE with 1: FAULTY wins.
         for (int i = 0; i < 3; i++) {
             x.period(2);
-            dueView(x, 2, 1, i == 2 ? FAULTY : SUSPECT, 0, i == 2 ? 0 : i + 1);
+            check.dueView(x, 2, 1, i == 2 ? FAULTY : SUSPECT, 0, i == 2 ? 0 : i + 1);
             if (i < 2) {
                 x.lose(0);
             }
         }
-        check.due("message(0)", x.message(0), packed(PING, 2, 0, 0, 2));
+        check.due("message(0)", x.message(0), Check.packed(PING, 2, 0, 0, 2));
         x.deliver(0);
-        dueView(x, 0, 1, FAULTY, 0, 0);
+        check.dueView(x, 0, 1, FAULTY, 0, 0);
         check.due("declared(1)", x.declared(1), 2);
         x.lose(0);
         // It is for good: ALIVE with a higher incarnation changes nothing.
         x.period(1);
         x.period(1);
-        check.due("message(1)", x.message(1), packed(PING, 1, 0, 0, 2));
+        check.due("message(1)", x.message(1), Check.packed(PING, 1, 0, 0, 2));
         x.deliver(1);
-        dueView(x, 0, 1, FAULTY, 0, 0);
+        check.dueView(x, 0, 1, FAULTY, 0, 0);
         x = faultyNewsFlies();
         x.deliver(0);
-        dueView(x, 0, 1, FAULTY, 0, 0);
+        check.dueView(x, 0, 1, FAULTY, 0, 0);
         check.due("sent(0, 1)", x.sent(0, 1), 1);
         // FAULTY is no news to one that has it: it is not announced again.
         x.deliver(0);
         int sent = x.sent(2, 1);
         x.period(0);
-        check.due("news(0, 0)", x.news(0, 0), packedNews(1, FAULTY, 0));
+        check.due("news(0, 0)", x.news(0, 0), Check.packedNews(1, FAULTY, 0));
         x.deliver(0);
         check.due("sent(2, 1)", x.sent(2, 1), sent + 1);
     }
@@ -588,31 +574,31 @@ public final class ActsTest {
         RumourCircle y = new RumourCircle(3);
         periodsUnheard(y, 0, 1);
         y.period(0);
-        check.due("message(0)", y.message(0), packed(PING, 0, 2, 2, 1));
+        check.due("message(0)", y.message(0), Check.packed(PING, 0, 2, 2, 1));
         y.deliver(0);
-        dueView(y, 2, 1, SUSPECT, 0, 0);
+        check.dueView(y, 2, 1, SUSPECT, 0, 0);
         periodsUnheard(y, 2, 1);
-        dueView(y, 2, 1, SUSPECT, 0, 1);
+        check.dueView(y, 2, 1, SUSPECT, 0, 1);
         int sent = y.sent(2, 1);
         periodsUnheard(y, 0, 1);
         y.period(0);
-        check.due("the message", y.message(y.flying() - 1), packed(PING, 0, 2, 2, 2));
-        check.due("its news", y.news(y.flying() - 1, 1), packedNews(1, SUSPECT, 0));
+        check.due("the message", y.message(y.flying() - 1), Check.packed(PING, 0, 2, 2, 2));
+        check.due("its news", y.news(y.flying() - 1, 1), Check.packedNews(1, SUSPECT, 0));
         y.deliver(y.flying() - 1);
-        dueView(y, 2, 1, SUSPECT, 0, 1);
+        check.dueView(y, 2, 1, SUSPECT, 0, 1);
         check.due("sent(2, 1)", y.sent(2, 1), sent + 1);
         // 2 has SUSPECT with 0 and a timer of 1; it hears SUSPECT with 1: newer.
         RumourCircle x = clearedForOne();
         x.period(2);
         x.lose(0);
-        dueView(x, 2, 1, SUSPECT, 0, 1);
+        check.dueView(x, 2, 1, SUSPECT, 0, 1);
         periodsUnheard(x, 0, 2);
         x.period(0);
-        dueView(x, 0, 1, SUSPECT, 1, 0);
-        check.due("message(0)", x.message(0), packed(PING, 0, 2, 2, 2));
-        check.due("news(0, 0)", x.news(0, 0), packedNews(1, SUSPECT, 1));
+        check.dueView(x, 0, 1, SUSPECT, 1, 0);
+        check.due("message(0)", x.message(0), Check.packed(PING, 0, 2, 2, 2));
+        check.due("news(0, 0)", x.news(0, 0), Check.packedNews(1, SUSPECT, 1));
         x.deliver(0);
-        dueView(x, 2, 1, SUSPECT, 1, 0);
+        check.dueView(x, 2, 1, SUSPECT, 1, 0);
         check.due("sent(2, 1)", x.sent(2, 1), 1);
     }
 
@@ -625,12 +611,12 @@ public final class ActsTest {
         }
         check.due("lose(2)", x.lose(2), true);
         check.due("flying()", x.flying(), 3);
-        check.due("message(1)", x.message(1), packed(PING, 1, 2, 2, 0));
-        check.due("message(2)", x.message(2), packed(PING, 3, 4, 4, 0));
+        check.due("message(1)", x.message(1), Check.packed(PING, 1, 2, 2, 0));
+        check.due("message(2)", x.message(2), Check.packed(PING, 3, 4, 4, 0));
         check.due("message(3)", x.message(3), NONE);
         check.due("lose(2)", x.lose(2), true);
         check.due("lose(0)", x.lose(0), true);
-        check.due("message(0)", x.message(0), packed(PING, 1, 2, 2, 0));
+        check.due("message(0)", x.message(0), Check.packed(PING, 1, 2, 2, 0));
         String before = Snapshot.of(x);
         int[] none = {-1, 1, 2, 24, 25, Integer.MIN_VALUE, Integer.MAX_VALUE};
         for (int k : none) {
@@ -640,7 +626,7 @@ public final class ActsTest {
         // What is lost is not heard.
         x = new RumourCircle(3);
         periodsUnheard(x, 0, 2);
-        dueView(x, 2, 1, ALIVE, 0, 0);
+        check.dueView(x, 2, 1, ALIVE, 0, 0);
         check.due("sent(0, 1)", x.sent(0, 1), 1);
         check.due("flying()", x.flying(), 0);
     }
@@ -662,12 +648,12 @@ public final class ActsTest {
         check.due("probe(0)", x.probe(0), 9);
         check.due("probe(1)", x.probe(1), 2);
         check.due("probe(2)", x.probe(2), NONE);
-        dueView(x, 1, 2, ALIVE, 0, 0);
+        check.dueView(x, 1, 2, ALIVE, 0, 0);
         // Messages that fly before arrive too, after the periods.
         x = new RumourCircle(2);
         x.period(0);
         check.due("round()", x.round(), 6);
-        dueView(x, 0, 1, ALIVE, 1, 0);
+        check.dueView(x, 0, 1, ALIVE, 1, 0);
         check.due("probe(0)", x.probe(0), 9);
         // 0 has stopped with a probe without an answer: it asks for no help. Two PINGs are answered,
         // one to 0 is not, and 2 has the help of 1 about 0: a REQUEST and a PING.
@@ -717,11 +703,11 @@ public final class ActsTest {
         check.due("stop(1)", x.stop(1), false);
         check.due("what is left", Snapshot.of(x), before);
         // It keeps what it had, and its message flies on.
-        dueView(x, 1, 2, SUSPECT, 0, 0);
+        check.dueView(x, 1, 2, SUSPECT, 0, 0);
         check.due("probe(1)", x.probe(1), 0);
         check.due("sent(1, 2)", x.sent(1, 2), 1);
         check.due("deliver(0)", x.deliver(0), PING);
-        dueView(x, 0, 2, SUSPECT, 0, 0);
+        check.dueView(x, 0, 2, SUSPECT, 0, 0);
         check.due("stop(0)", x.stop(0), true);
         check.due("stop(2)", x.stop(2), true);
     }

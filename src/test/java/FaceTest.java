@@ -48,6 +48,10 @@ public final class FaceTest {
             addIfSeen(seen, method.getModifiers(), method.toString());
         }
         check.due("what is seen", String.join("\n  ", seen), String.join("\n  ", new TreeSet<>(FACE)));
+        for (Class<?> inside : RumourCircle.class.getDeclaredClasses()) {
+            int hidden = Modifier.STATIC | Modifier.PUBLIC | Modifier.PROTECTED;
+            check.due(inside.getName() + " is static and not seen", inside.getModifiers() & hidden, Modifier.STATIC);
+        }
         check.due("NONE", RumourCircle.NONE, -1);
         check.due("ALIVE", RumourCircle.ALIVE, 0);
         check.due("SUSPECT", RumourCircle.SUSPECT, 1);
