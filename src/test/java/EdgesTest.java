@@ -363,6 +363,15 @@ public final class EdgesTest {
         RumourCircle x = Run.crowded(24);
         x.round();
         check.dueFlying(x, 0);
+        // The most that can arrive before the help: 24 REQUESTs, each followed by a PING and two ACKs; what
+        // the last one tells goes with the help.
+        String requests = "p1 l0 p2 l0 h1 h2 h1 h1 p0 l8 h2 h2 h2 h1 h1 h2 h2 h0";
+        x = Run.of(4, requests);
+        check.dueFlying(x, 24);
+        for (int k = 0; k < 24; k++) {
+            check.due("the kind of message " + k, x.message(k) / 4096, REQUEST);
+        }
+        dueLikeByHand(4, requests, 1);
     }
 
     private static void roundAsksForHelp() {
